@@ -10,6 +10,7 @@ public final class ForesightTest {
         foreseeTellsWhatIsNew();
         foreseeRefuses();
         adviseHoldsWhereItHelps();
+        adviseGoesUpTo15();
         adviseTakesTheLeast();
         adviseRefuses();
         meanDivides();
@@ -147,6 +148,47 @@ public final class ForesightTest {
             x.queue(way[0], way[1]);
         }
         return x;
+    }
+
+    /**
+     * Bus 0 left stop 5 in the minute 0; bus 2, with one seat, can leave it in 14, and bus 1 in 15. Only with a hold
+     * of 15 bus 1 leaves first and takes the long rider at 6, so that 7 and not 8 get off it at 7: the 28 who wait
+     * behind 7 wait a minute less each, and those at 6 wait 1 and 15 minutes more.
+     */
+    private static void adviseGoesUpTo15() {
+        BusStage x = lineWithALongHold();
+        x.hold(0);
+        int without = x.foresee(60, 2);
+        x.hold(14);
+        CHECK.holds("14 is worse than none", x.foresee(60, 2) > without);
+        x.hold(15);
+        CHECK.same("15 is better than none", x.foresee(60, 2), without - 28 + 1 + 15);
+        x.hold(3);
+        CHECK.same("advise(60) at the upper edge", x.advise(60), 15);
+        CHECK.same("in 3 minutes it only costs", x.advise(3), 0);
+    }
+
+    private static BusStage lineWithALongHold() {
+        BusStage x = new BusStage();
+        x.start(5, 1);
+        x.queue(6, 5);
+        x.go(9);
+        x.start(4, 8);
+        queueMany(x, 7, 5, 7);
+        x.go(5);
+        x.start(5, 1);
+        x.queue(6, 5);
+        x.queue(6, 7);
+        for (int stop = 8; stop < 12; stop++) {
+            queueMany(x, 7, stop % 10, (stop + 1) % 10);
+        }
+        return x;
+    }
+
+    private static void queueMany(BusStage x, int many, int from, int to) {
+        for (int i = 0; i < many; i++) {
+            x.queue(from, to);
+        }
     }
 
     private static void adviseTakesTheLeast() {

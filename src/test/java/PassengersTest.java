@@ -13,6 +13,7 @@ public final class PassengersTest {
         aFareIsThatOfTheMinute();
         transferAt(28, true);
         transferAt(29, false);
+        halfOfAFareIsCut();
         transferIsUsedOnce();
         changeRefuses();
         passengerRefuses();
@@ -152,6 +153,17 @@ public final class PassengersTest {
         CHECK.same("paid in the bus", x.bus(0, 5), hasIt ? 4 : 6);
         x.go(6);
         told("arrives again", x, 0, 2, 5, 5, -1, hasIt ? 4 : 6, 2 + 38 - minute, 44);
+    }
+
+    private static void halfOfAFareIsCut() {
+        BusStage x = new BusStage();
+        x.start(0, 5);
+        x.queue(1, 3);
+        x.go(9);
+        CHECK.same("the whole fare", x.fare(3, 2), 7);
+        x.change(0, 2);
+        x.go(30);
+        CHECK.same("half of 7 is 3", x.passenger(0, 4), 3 + 3);
     }
 
     private static void transferIsUsedOnce() {
