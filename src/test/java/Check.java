@@ -1,7 +1,11 @@
 /** What the tests share: each wrong answer is printed and counted. */
 final class Check {
+    interface Maker {
+        BusStage make();
+    }
+
     interface Call {
-        Object run();
+        Object on(BusStage x);
     }
 
     private int wrong = 0;
@@ -24,33 +28,50 @@ final class Check {
         }
     }
 
+    void refusesIndex(String what, Maker maker, Call call) {
+        refuses(what, maker, IndexOutOfBoundsException.class, call);
+    }
+
+    void refusesArgument(String what, Maker maker, Call call) {
+        refuses(what, maker, IllegalArgumentException.class, call);
+    }
+
+    void refusesState(String what, Maker maker, Call call) {
+        refuses(what, maker, IllegalStateException.class, call);
+    }
+
     /** The call throws just this kind of exception, and changes nothing. */
-    void refuses(String what, BusStage stage, Class<? extends RuntimeException> due, Call call) {
-        long before = stage.digest();
+    private void refuses(String what, Maker maker, Class<? extends RuntimeException> due, Call call) {
+        BusStage called = maker.make();
         Class<?> got = null;
         try {
-            call.run();
+            call.on(called);
         } catch (RuntimeException thrown) {
             got = thrown.getClass();
         }
         if (got != due) {
             report(what + " threw " + got + ", due is " + due);
         }
-        if (stage.digest() != before) {
+        staysAlike(what, called, maker.make());
+    }
+
+    /** The call answers, and the object is as one on which it was not called. */
+    void changesNothing(String what, Maker maker, Call call) {
+        BusStage called = maker.make();
+        call.on(called);
+        staysAlike(what, called, maker.make());
+    }
+
+    /** Two hours on as well: what no call tells now (a transfer) shows by then. */
+    private void staysAlike(String what, BusStage called, BusStage notCalled) {
+        if (called.digest() != notCalled.digest()) {
             report(what + " changed something");
         }
-    }
-
-    void refusesIndex(String what, BusStage stage, Call call) {
-        refuses(what, stage, IndexOutOfBoundsException.class, call);
-    }
-
-    void refusesArgument(String what, BusStage stage, Call call) {
-        refuses(what, stage, IllegalArgumentException.class, call);
-    }
-
-    void refusesState(String what, BusStage stage, Call call) {
-        refuses(what, stage, IllegalStateException.class, call);
+        called.go(120);
+        notCalled.go(120);
+        if (called.digest() != notCalled.digest()) {
+            report(what + " changed what comes later");
+        }
     }
 
     void finish() {

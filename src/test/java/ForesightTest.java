@@ -4,15 +4,9 @@ public final class ForesightTest {
 
     public static void main(String[] args) {
         arrivesTellsMinutes();
-        arrivesEndsAt200();
-        arrivesRefuses();
         foreseeTells();
         foreseeTellsWhatIsNew();
-        foreseeRefuses();
         adviseHoldsWhereItHelps();
-        adviseGoesUpTo15();
-        adviseTakesTheLeast();
-        adviseRefuses();
         meanDivides();
         digestOfNew();
         digestOrder();
@@ -34,34 +28,6 @@ public final class ForesightTest {
         CHECK.same("now", x.arrives(0), 0);
         x.go(20);
         CHECK.same("long ago", x.arrives(0), 0);
-    }
-
-    /** With 9 minutes a step the bus comes to its k-th stop in the minute 10 * k - 1; two who get on cost one more. */
-    private static void arrivesEndsAt200() {
-        BusStage x = new BusStage();
-        for (int stop = 0; stop < 10; stop++) {
-            x.set(stop, 9, 0);
-        }
-        x.start(0, 2);
-        x.queue(1, 2);
-        x.queue(1, 2);
-        x.queue(1, 0);
-        CHECK.same("201 minutes are too many", x.arrives(2), -1);
-        x.go(1);
-        CHECK.same("200 minutes", x.arrives(2), 200);
-        x.go(1);
-        CHECK.same("199 minutes", x.arrives(2), 199);
-        BusStage y = new BusStage();
-        y.queue(0, 1);
-        CHECK.same("no bus", y.arrives(0), -1);
-    }
-
-    private static void arrivesRefuses() {
-        BusStage x = new BusStage();
-        x.queue(1, 3);
-        CHECK.refusesIndex("arrives(-1)", x, () -> x.arrives(-1));
-        CHECK.refusesIndex("arrives(1)", x, () -> x.arrives(1));
-        CHECK.refusesIndex("arrives(50)", x, () -> x.arrives(50));
     }
 
     private static void foreseeTells() {
@@ -96,16 +62,6 @@ public final class ForesightTest {
         CHECK.same("arrivals from now on", x.foresee(120, 0), 2);
         CHECK.same("paid from now on", x.foresee(120, 1), 3 - 1 + 1);
         CHECK.same("waited from now on", x.foresee(2, 2), 2);
-    }
-
-    private static void foreseeRefuses() {
-        BusStage x = new BusStage();
-        x.start(0, 20);
-        CHECK.refusesArgument("foresee(0, 0)", x, () -> x.foresee(0, 0));
-        CHECK.refusesArgument("foresee(121, 0)", x, () -> x.foresee(121, 0));
-        CHECK.refusesArgument("foresee(0, 4), minutes ahead", x, () -> x.foresee(0, 4));
-        CHECK.refusesIndex("foresee(1, -1)", x, () -> x.foresee(1, -1));
-        CHECK.refusesIndex("foresee(1, 4)", x, () -> x.foresee(1, 4));
     }
 
     /** A hold seldom helps; here one of 1 lets the others take turns at 3, so that 77 are waited in place of 78. */
@@ -148,64 +104,6 @@ public final class ForesightTest {
             x.queue(way[0], way[1]);
         }
         return x;
-    }
-
-    /**
-     * Bus 0 left stop 5 in the minute 0; bus 2, with one seat, can leave it in 14, and bus 1 in 15. Only with a hold
-     * of 15 bus 1 leaves first and takes the long rider at 6, so that 7 and not 8 get off it at 7: the 28 who wait
-     * behind 7 wait a minute less each, and those at 6 wait 1 and 15 minutes more.
-     */
-    private static void adviseGoesUpTo15() {
-        BusStage x = lineWithALongHold();
-        x.hold(0);
-        int without = x.foresee(60, 2);
-        x.hold(14);
-        CHECK.holds("14 is worse than none", x.foresee(60, 2) > without);
-        x.hold(15);
-        CHECK.same("15 is better than none", x.foresee(60, 2), without - 28 + 1 + 15);
-        x.hold(3);
-        CHECK.same("advise(60) at the upper edge", x.advise(60), 15);
-        CHECK.same("in 3 minutes it only costs", x.advise(3), 0);
-    }
-
-    private static BusStage lineWithALongHold() {
-        BusStage x = new BusStage();
-        x.start(5, 1);
-        x.queue(6, 5);
-        x.go(9);
-        x.start(4, 8);
-        queueMany(x, 7, 5, 7);
-        x.go(5);
-        x.start(5, 1);
-        x.queue(6, 5);
-        x.queue(6, 7);
-        for (int stop = 8; stop < 12; stop++) {
-            queueMany(x, 7, stop % 10, (stop + 1) % 10);
-        }
-        return x;
-    }
-
-    private static void queueMany(BusStage x, int many, int from, int to) {
-        for (int i = 0; i < many; i++) {
-            x.queue(from, to);
-        }
-    }
-
-    private static void adviseTakesTheLeast() {
-        BusStage x = new BusStage();
-        x.hold(9);
-        CHECK.same("nobody waits", x.advise(120), 0);
-        x.start(0, 5);
-        x.queue(5, 6);
-        CHECK.same("all holds are alike", x.advise(1), 0);
-    }
-
-    private static void adviseRefuses() {
-        BusStage x = new BusStage();
-        x.start(0, 5);
-        CHECK.refusesArgument("advise(0)", x, () -> x.advise(0));
-        CHECK.refusesArgument("advise(121)", x, () -> x.advise(121));
-        CHECK.same("advise(1)", x.advise(1), 0);
     }
 
     private static void meanDivides() {

@@ -5,15 +5,12 @@ public final class LineTest {
     public static void main(String[] args) {
         newObject();
         setTellsBeforeAndCounts();
-        setRefuses();
         goingBusesGoOnAsTheyAre();
         holdTellsBefore();
         holdKeepsBusesApart();
         holdCountsForEachStopByItself();
         startPutsBuses();
-        startRefuses();
         fareCountsSteps();
-        fareRefuses();
         CHECK.finish();
     }
 
@@ -28,8 +25,6 @@ public final class LineTest {
                 CHECK.same("new: stop " + stop + " " + what, x.stop(stop, what), due[what]);
             }
         }
-        CHECK.refusesIndex("new: no bus", x, () -> x.bus(0, 0));
-        CHECK.refusesIndex("new: no passenger", x, () -> x.passenger(0, 0));
         BusStage y = new BusStage();
         y.set(0, 9, 9);
         y.start(0, 1);
@@ -46,18 +41,6 @@ public final class LineTest {
         CHECK.same("stage of 9", x.stop(9, 1), 7);
         CHECK.same("stop 8 is as it was", x.set(8, 2, 4), 24);
         CHECK.same("set(0)", x.set(0, 9, 9), 20);
-    }
-
-    private static void setRefuses() {
-        BusStage x = new BusStage();
-        CHECK.refusesIndex("set stop -1", x, () -> x.set(-1, 1, 0));
-        CHECK.refusesIndex("set stop 10", x, () -> x.set(10, 1, 0));
-        CHECK.refusesIndex("set stop 10 ahead of minutes", x, () -> x.set(10, 0, 10));
-        CHECK.refusesIndex("set stop far below", x, () -> x.set(Integer.MIN_VALUE, 1, 0));
-        CHECK.refusesArgument("set minutes 0", x, () -> x.set(0, 0, 0));
-        CHECK.refusesArgument("set minutes 10", x, () -> x.set(0, 10, 0));
-        CHECK.refusesArgument("set stage -1", x, () -> x.set(0, 1, -1));
-        CHECK.refusesArgument("set stage 10", x, () -> x.set(0, 1, 10));
     }
 
     private static void goingBusesGoOnAsTheyAre() {
@@ -79,8 +62,6 @@ public final class LineTest {
         CHECK.same("hold(15)", x.hold(15), 0);
         CHECK.same("hold(7)", x.hold(7), 15);
         CHECK.same("the hold is told", x.count(1), 7);
-        CHECK.refusesArgument("hold(-1)", x, () -> x.hold(-1));
-        CHECK.refusesArgument("hold(16)", x, () -> x.hold(16));
         CHECK.same("hold(0)", x.hold(0), 7);
     }
 
@@ -136,21 +117,6 @@ public final class LineTest {
         CHECK.same("behind 9 comes 0", x.bus(0, 0), 0);
     }
 
-    private static void startRefuses() {
-        BusStage x = new BusStage();
-        CHECK.refusesIndex("start stop -1", x, () -> x.start(-1, 1));
-        CHECK.refusesIndex("start stop 10", x, () -> x.start(10, 1));
-        CHECK.refusesIndex("start stop ahead of seats", x, () -> x.start(10, 0));
-        CHECK.refusesArgument("start seats 0", x, () -> x.start(0, 0));
-        CHECK.refusesArgument("start seats 21", x, () -> x.start(0, 21));
-        for (int number = 0; number < 6; number++) {
-            CHECK.same("start", x.start(number, 5), number);
-        }
-        CHECK.refusesState("a seventh bus", x, () -> x.start(0, 1));
-        CHECK.refusesIndex("a seventh bus, stop ahead", x, () -> x.start(10, 1));
-        CHECK.refusesArgument("a seventh bus, seats ahead", x, () -> x.start(0, 21));
-    }
-
     private static void fareCountsSteps() {
         BusStage x = new BusStage();
         CHECK.same("fare(0, 1)", x.fare(0, 1), 2);
@@ -165,14 +131,5 @@ public final class LineTest {
         x.set(5, 2, 1);
         CHECK.same("each change counts, not each stage", x.fare(3, 6), 5);
         CHECK.same("a fare changes nothing", x.count(7), 0);
-    }
-
-    private static void fareRefuses() {
-        BusStage x = new BusStage();
-        CHECK.refusesIndex("fare(-1, 0)", x, () -> x.fare(-1, 0));
-        CHECK.refusesIndex("fare(10, 0)", x, () -> x.fare(10, 0));
-        CHECK.refusesIndex("fare(0, -1)", x, () -> x.fare(0, -1));
-        CHECK.refusesIndex("fare(0, 10)", x, () -> x.fare(0, 10));
-        CHECK.refusesIndex("fare(10, 10)", x, () -> x.fare(10, 10));
     }
 }
