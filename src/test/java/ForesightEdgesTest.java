@@ -19,11 +19,13 @@ public final class ForesightEdgesTest {
         foreseeRefusesAWhatBeyond();
         foreseeNamesTheMinutesFirst();
         foreseeCountsUpToItsLastMinute();
+        foreseeCountsFromNowOn();
         foreseeIs0WhereNothingIs();
         foreseeChangesNothing();
         adviseTakesTheFewestAndTheMostMinutes();
         adviseRefusesMinutesBeyond();
         adviseGoesUpTo15();
+        adviseGoesNotUpTo16();
         adviseCountsUpToItsLastMinute();
         adviseTakesTheLeastOfSeveral();
         adviseChangesNothing();
@@ -186,6 +188,21 @@ public final class ForesightEdgesTest {
         return x;
     }
 
+    /** Promise 14: "in them": nothing of the minutes ahead; what is there now (a transfer, the stages) counts. */
+    private static void foreseeCountsFromNowOn() {
+        BusStage x = oneWhoArrivesInTheMinute5();
+        x.queue(7, 8);
+        x.go(6);
+        CHECK.same("one has arrived, one waits", x.count(6) * 10 + x.count(4), 11);
+        CHECK.same("arrivals from now on", x.foresee(120, 0), 1);
+        CHECK.same("paid from now on", x.foresee(120, 1), 3);
+        CHECK.same("waited from now on", x.foresee(2, 2), 2);
+        x.set(8, 2, 3);
+        CHECK.same("paid with one stage", x.foresee(120, 1), 2);
+        x.change(0, 1);
+        CHECK.same("paid with a transfer", x.foresee(120, 1), 2 + x.fare(2, 1) / 2);
+    }
+
     private static void foreseeIs0WhereNothingIs() {
         for (int what = 0; what < 4; what++) {
             CHECK.same("an empty line, what " + what, new BusStage().foresee(120, what), 0);
@@ -237,10 +254,14 @@ public final class ForesightEdgesTest {
      * behind 7 wait a minute less each, and those at 6 wait 1 and 15 minutes more.
      */
     private static BusStage lineWithALongHold() {
+        return lineWhereOneLeaves5In(15);
+    }
+
+    private static BusStage lineWhereOneLeaves5In(int minute) {
         BusStage x = new BusStage();
         x.start(5, 1);
         x.queue(6, 5);
-        x.go(9);
+        x.go(minute - 6);
         x.start(4, 8);
         Lines.queueMany(x, 7, 5, 7);
         x.go(5);
@@ -251,6 +272,14 @@ public final class ForesightEdgesTest {
             Lines.queueMany(x, 7, stop % 10, (stop + 1) % 10);
         }
         return x;
+    }
+
+    /** Promise 15: "the hold, 0 to 15": with all a minute later, only 16 would be better than none. */
+    private static void adviseGoesNotUpTo16() {
+        BusStage x = lineWhereOneLeaves5In(16);
+        CHECK.same("advise(60) beyond the upper edge", x.advise(60), 0);
+        CHECK.same("one minute earlier", lineWhereOneLeaves5In(15).advise(60), 15);
+        CHECK.same("two minutes earlier", lineWhereOneLeaves5In(14).advise(60), 14);
     }
 
     /** Promise 15: "so that the fewest minutes are waited in them": with the last of them, without the next one. */
@@ -376,7 +405,10 @@ public final class ForesightEdgesTest {
         CHECK.same("digest of a busy line", x.digest(), signed.longValueExact());
     }
 
+    /** On a full line with at most 510 calls. */
     private static BigInteger digestInBigNumbers(BusStage x) {
+        int buses = x.count(2);
+        int passengers = x.count(3);
         BigInteger due = BigInteger.valueOf(1039);
         for (int what = 0; what < 10; what++) {
             due = next(due, x.count(what));
@@ -386,12 +418,12 @@ public final class ForesightEdgesTest {
                 due = next(due, x.stop(stop, what));
             }
         }
-        for (int bus = 0; bus < x.count(2); bus++) {
+        for (int bus = 0; bus < buses; bus++) {
             for (int what = 0; what < 6; what++) {
                 due = next(due, x.bus(bus, what));
             }
         }
-        for (int passenger = 0; passenger < x.count(3); passenger++) {
+        for (int passenger = 0; passenger < passengers; passenger++) {
             for (int what = 0; what < 7; what++) {
                 due = next(due, x.passenger(passenger, what));
             }

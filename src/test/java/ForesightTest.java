@@ -146,6 +146,8 @@ public final class ForesightTest {
     }
 
     static long digestByHand(BusStage x) {
+        int buses = x.count(2);
+        int passengers = x.count(3);
         long due = 1039;
         for (int what = 0; what < 10; what++) {
             due = due * 31 + x.count(what);
@@ -155,12 +157,12 @@ public final class ForesightTest {
                 due = due * 31 + x.stop(stop, what);
             }
         }
-        for (int bus = 0; bus < x.count(2); bus++) {
+        for (int bus = 0; bus < buses; bus++) {
             for (int what = 0; what < 6; what++) {
                 due = due * 31 + x.bus(bus, what);
             }
         }
-        for (int passenger = 0; passenger < x.count(3); passenger++) {
+        for (int passenger = 0; passenger < passengers; passenger++) {
             for (int what = 0; what < 7; what++) {
                 due = due * 31 + x.passenger(passenger, what);
             }
