@@ -8,11 +8,19 @@ import java.util.TreeSet;
 
 /** The class shows the document's face and nothing else. */
 public final class FaceTest {
+    private static final String INDEX = " throws IndexOutOfBoundsException";
+    private static final String ARGUMENT = " throws IllegalArgumentException";
     private static final String[] FACE = {
-        "int set(int, int, int)", "int hold(int)", "int start(int, int)", "int queue(int, int)",
-        "boolean change(int, int)", "int fare(int, int)", "int bus(int, int)", "int passenger(int, int)",
-        "int stop(int, int)", "int count(int)", "int go(int)", "int arrives(int)", "int foresee(int, int)",
-        "int advise(int)", "double mean()", "long digest()"};
+        "int set(int, int, int)" + INDEX + ARGUMENT,
+        "int hold(int)" + ARGUMENT,
+        "int start(int, int)" + INDEX + ARGUMENT + " throws IllegalStateException",
+        "int queue(int, int)" + INDEX + ARGUMENT + " throws IllegalStateException",
+        "boolean change(int, int)" + INDEX + " throws IllegalStateException",
+        "int fare(int, int)" + INDEX, "int bus(int, int)" + INDEX, "int passenger(int, int)" + INDEX,
+        "int stop(int, int)" + INDEX, "int count(int)" + INDEX,
+        "int go(int)" + ARGUMENT,
+        "int arrives(int)" + INDEX, "int foresee(int, int)" + ARGUMENT + INDEX, "int advise(int)" + ARGUMENT,
+        "double mean()", "long digest()"};
 
     public static void main(String[] args) {
         Check check = new Check();
@@ -20,12 +28,18 @@ public final class FaceTest {
         check.holds("public and final", Modifier.isPublic(kind) && Modifier.isFinal(kind));
         Constructor<?>[] makers = BusStage.class.getDeclaredConstructors();
         check.same("constructors", makers.length, 1);
-        check.holds("the constructor is public and takes nothing",
-            Modifier.isPublic(makers[0].getModifiers()) && makers[0].getParameterCount() == 0);
+        check.holds("the constructor is public, takes nothing and throws nothing",
+            Modifier.isPublic(makers[0].getModifiers()) && makers[0].getParameterCount() == 0
+                && makers[0].getExceptionTypes().length == 0);
         check.holds("the methods are the document's: " + visibleMethods(),
             visibleMethods().equals(new TreeSet<>(Arrays.asList(FACE))));
         for (Field field : BusStage.class.getDeclaredFields()) {
             check.holds(field.getName() + " is private", Modifier.isPrivate(field.getModifiers()));
+        }
+        for (Class<?> inside : BusStage.class.getDeclaredClasses()) {
+            int inner = inside.getModifiers();
+            check.holds(inside.getName() + " is not of the face",
+                !Modifier.isPublic(inner) && !Modifier.isProtected(inner));
         }
         check.finish();
     }
@@ -33,8 +47,10 @@ public final class FaceTest {
     private static Set<String> visibleMethods() {
         Set<String> found = new TreeSet<>();
         for (Method method : BusStage.class.getDeclaredMethods()) {
-            if (!Modifier.isPrivate(method.getModifiers()) && !method.isSynthetic()) {
+            if (Modifier.isPublic(method.getModifiers()) && !Modifier.isStatic(method.getModifiers())) {
                 found.add(signature(method));
+            } else if (!Modifier.isPrivate(method.getModifiers()) && !method.isSynthetic()) {
+                found.add("not in the face: " + signature(method));
             }
         }
         return found;
@@ -45,6 +61,10 @@ public final class FaceTest {
         for (int i = 0; i < method.getParameterCount(); i++) {
             text.append(i == 0 ? "" : ", ").append(method.getParameterTypes()[i]);
         }
-        return text.append(")").toString();
+        text.append(")");
+        for (Class<?> thrown : method.getExceptionTypes()) {
+            text.append(" throws ").append(thrown.getSimpleName());
+        }
+        return text.toString();
     }
 }

@@ -28,6 +28,8 @@ public final class ForesightEdgesTest {
         adviseGoesNotUpTo16();
         adviseCountsUpToItsLastMinute();
         adviseTakesTheLeastOfSeveral();
+        adviseTakesTheLeastOfSeveralAbove0();
+        adviseTakesTheLeastOfSeveralFarApart();
         adviseChangesNothing();
         meanIs0WithoutPassengers();
         meanCountsAllPassengers();
@@ -299,12 +301,9 @@ public final class ForesightEdgesTest {
         int best = 0;
         int fewest = Integer.MAX_VALUE;
         for (int hold = 0; hold <= 15; hold++) {
-            BusStage x = lineWithALongHold();
-            int before = x.count(8);
-            x.hold(hold);
-            x.go(minutes);
-            if (x.count(8) - before < fewest) {
-                fewest = x.count(8) - before;
+            int waited = waitedOn(lineWithALongHold(), hold, minutes);
+            if (waited < fewest) {
+                fewest = waited;
                 best = hold;
             }
         }
@@ -329,6 +328,67 @@ public final class ForesightEdgesTest {
             CHECK.same("waited with a hold of " + hold, y.foresee(60, 2), hold <= 2 ? 2 : hold);
             CHECK.same("0, 1 and 2 are alike", y.advise(60), 0);
         }
+    }
+
+    /** Promise 15: "of several the least": 2 and 3 are the best together, 0 is worse, and 1 worse still. */
+    private static void adviseTakesTheLeastOfSeveralAbove0() {
+        int[] due = {423, 432, 419, 419, 421};
+        for (int hold = 0; hold < due.length; hold++) {
+            CHECK.same("waited with a hold of " + hold, waitedOn(lineWhere2And3AreBest(), hold, 120), due[hold]);
+        }
+        for (int hold = due.length; hold <= 15; hold++) {
+            int waited = waitedOn(lineWhere2And3AreBest(), hold, 120);
+            CHECK.holds("more is waited with a hold of " + hold, waited > 419);
+        }
+        for (int hold = 0; hold <= 15; hold++) {
+            BusStage x = lineWhere2And3AreBest();
+            x.hold(hold);
+            CHECK.same("2 and 3 are the best, now it is " + hold, x.advise(120), 2);
+        }
+    }
+
+    private static BusStage lineWhere2And3AreBest() {
+        BusStage x = new BusStage();
+        queueEach(x, 4, 2, 8, 2, 6, 1, 5, 4, 3, 8, 6, 2, 6, 8, 3, 0, 8, 5);
+        x.start(7, 1);
+        x.go(7);
+        queueEach(x, 8, 6, 5, 8);
+        x.go(1);
+        queueEach(x, 6, 9, 8, 5, 9, 7);
+        x.start(0, 4);
+        return x;
+    }
+
+    /** Promise 15: "of several the least": 1 and 3 are the best together, and 2 between them is the worst of four. */
+    private static void adviseTakesTheLeastOfSeveralFarApart() {
+        int[] due = {273, 267, 274, 267, 268};
+        for (int hold = 0; hold < due.length; hold++) {
+            CHECK.same("waited with a hold of " + hold, waitedOn(lineWhere1And3AreBest(), hold, 84), due[hold]);
+        }
+        CHECK.same("1 and 3 are the best", lineWhere1And3AreBest().advise(84), 1);
+    }
+
+    private static BusStage lineWhere1And3AreBest() {
+        BusStage x = new BusStage();
+        queueEach(x, 5, 2, 5, 7, 6, 1, 5, 9, 3, 0, 8, 9, 6, 7, 5, 2, 9, 8, 4, 2, 9, 2);
+        x.start(1, 10);
+        x.start(1, 1);
+        queueEach(x, 8, 3, 9, 8, 5, 6, 5, 7, 3, 7, 3, 1);
+        return x;
+    }
+
+    /** Two stops each: from, to. */
+    private static void queueEach(BusStage x, int... ways) {
+        for (int i = 0; i + 1 < ways.length; i += 2) {
+            x.queue(ways[i], ways[i + 1]);
+        }
+    }
+
+    private static int waitedOn(BusStage x, int hold, int minutes) {
+        int before = x.count(8);
+        x.hold(hold);
+        x.go(minutes);
+        return x.count(8) - before;
     }
 
     /** Promise 15: "(nothing is changed)": nor the hold. */
